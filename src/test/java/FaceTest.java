@@ -1,0 +1,78 @@
+import java.io.IOException;
+import java.lang.reflect.Constructor;
+import java.lang.reflect.Field;
+import java.lang.reflect.Method;
+import java.lang.reflect.Modifier;
+import java.nio.file.Files;
+import java.nio.file.Path;
+import java.util.Set;
+import java.util.TreeSet;
+
+/** The public face, and those rules of LANGUAGE.md that words of the source show. */
+public final class FaceTest {
+    private static final String[] FACE = {"feed(int,long)", "telling(int)", "tellingOf(int,int,int)",
+        "word(int,int,int,int)", "all(int,int,boolean)", "depth(int,int,int)", "learnt(int,int)", "put(int)",
+        "judge(int,int)", "needed(int,int)", "idle(int)", "leads(int,int)", "knot(int,int)", "knots(int)",
+        "fewest(int)", "lightest(int)", "sets(int,int)", "soonest(int,int)", "waits(int)", "change(int,int)",
+        "mend(int)", "spread(int,int,int)", "shows(int,int,int)", "carries(int)", "lacks(int)", "image()", "on()",
+        "count(int)"};
+
+    public static void main(String[] args) throws IOException {
+        face();
+        inside();
+        source();
+        Due.end();
+    }
+
+    private static String shape(Method method) {
+        StringBuilder shape = new StringBuilder(method.getName()).append('(');
+        for (Class<?> type : method.getParameterTypes()) {
+            shape.append(shape.charAt(shape.length() - 1) == '(' ? "" : ",").append(type.getName());
+        }
+        return shape.append(')').toString();
+    }
+
+    private static void face() {
+        Set<String> seen = new TreeSet<>();
+        for (Method method : WordsTold.class.getDeclaredMethods()) {
+            if (!Modifier.isPrivate(method.getModifiers()) && !method.isSynthetic()) {
+                seen.add(shape(method));
+                Due.due("modifiers of " + method, method.getModifiers(), Modifier.PUBLIC);
+                Due.due("answer of " + method, method.getReturnType() == int.class ? 1 : 0, 1);
+            }
+        }
+        Due.due("the face " + seen, seen.equals(new TreeSet<>(Set.of(FACE))) ? 1 : 0, 1);
+        Due.due("the class", WordsTold.class.getModifiers(), Modifier.PUBLIC | Modifier.FINAL);
+        Constructor<?>[] constructors = WordsTold.class.getDeclaredConstructors();
+        Due.due("constructors", constructors.length, 1);
+        Due.due("its parameters", constructors[0].getParameterCount(), 0);
+        Due.due("its modifiers", constructors[0].getModifiers(), Modifier.PUBLIC);
+        for (Field field : WordsTold.class.getDeclaredFields()) {
+            Due.due("private " + field, Modifier.isPrivate(field.getModifiers()) ? 1 : 0, 1);
+        }
+    }
+
+    private static void inside() {
+        for (Class<?> type : WordsTold.class.getDeclaredClasses()) {
+            Due.due("static " + type, Modifier.isStatic(type.getModifiers()) ? 1 : 0, 1);
+            for (Method method : type.getDeclaredMethods()) {
+                for (String of : FACE) {
+                    Due.due("the name of " + method, of.startsWith(method.getName() + "(") ? 1 : 0, 0);
+                }
+            }
+        }
+    }
+
+    private static void source() throws IOException {
+        String source = Files.readString(Path.of("src/main/java/WordsTold.java"));
+        String code = source.replaceAll("(?s)/\\*.*?\\*/", " ").replaceAll("//[^\n]*", " ").replaceAll("\"[^\"]*\"", " ");
+        Set<String> words = new TreeSet<>(java.util.Arrays.asList(code.split("[^A-Za-z]+")));
+        for (String no : new String[] {"throw", "throws", "try", "catch", "synchronized", "assert", "import", "package",
+            "Object", "System", "Thread", "Random"}) {
+            Due.due("the word " + no, words.contains(no) ? 1 : 0, 0);
+        }
+        for (String no : new String[] {"->", "::"}) {
+            Due.due("the sign " + no, code.indexOf(no) >= 0 ? 1 : 0, 0);
+        }
+    }
+}
