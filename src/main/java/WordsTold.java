@@ -286,7 +286,7 @@ public final class WordsTold {
             if ((set & ~may) != 0) {
                 continue;
             }
-            int words = Integer.bitCount(fewestAfter(now.bookAt(book), set));
+            int words = fewestWordsAfter(now.bookAt(book), set);
             boolean asFew = words == bestWords && Integer.bitCount(set) < Integer.bitCount(best);
             if (words < bestWords || asFew) {
                 best = set;
@@ -389,10 +389,11 @@ public final class WordsTold {
         return foundations.fewest;
     }
 
-    private int fewestAfter(Book book, int set) {
+    private int fewestWordsAfter(Book book, int set) {
         trial.copyFrom(book);
         now.changes.makeIn(trial, set);
-        return fewestOf(trial);
+        foundations.find(trial, 0);
+        return foundations.fewestWords;
     }
 
     private static boolean isBook(int book) {
@@ -670,6 +671,18 @@ public final class WordsTold {
             return taught & ~(failed & byAll);
         }
 
+        /** Some of the words that can be learnt now, one at least; 0 there are none. */
+        int someTaughtNext(int learnt) {
+            int settled = learnt | byAll;
+            for (int number = 0; number < tellings.size; number++) {
+                int bit = 1 << tellings.words[number];
+                if ((settled & bit) == 0 && tellings.teaches(number, learnt)) {
+                    return bit;
+                }
+            }
+            return byAll == 0 ? 0 : taughtNext(learnt);
+        }
+
         int learntFrom(int known) {
             int learnt = known;
             for (int round = 1; round <= WORDS; round++) {
@@ -866,12 +879,17 @@ public final class WordsTold {
             look(book, 0);
         }
 
-        // Sets fall, so one that has more than this one was looked at ahead of it.
+        // Sets fall, so one that has more than this one was looked at ahead of it. If a word more
+        // (the least that lacks) does not make a foundation, this set is none.
         private void look(Book book, int extra) {
             int set = ground | extra;
-            int next = book.taughtNext(set);
-            founded[set] = set == EVERY || (next != 0 && founded[set | next]);
-            if (founded[set]) {
+            boolean is = set == EVERY;
+            if (!is && founded[set | (set + 1)]) {
+                int next = book.someTaughtNext(set);
+                is = next != 0 && founded[set | next];
+            }
+            founded[set] = is;
+            if (is) {
                 note(core | extra);
             }
         }

@@ -99,6 +99,9 @@ public final class ChangeTest {
         Due.alter(x, 0, 0, "aWc");
         Due.alter(x, 0, 1, "cWa");
         Due.due("both are as good as one", x.mend(0), 1);
+        x = Due.with(0, "aRb", "bWc", "cWb");
+        Due.alter(x, 0, 0, "aKcb");
+        Due.due("a change of KIND", x.mend(0), 1);
     }
 
     private static void byAll() {

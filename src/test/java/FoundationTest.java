@@ -6,6 +6,7 @@ public final class FoundationTest {
         empty();
         ring();
         fewWordsOrLittleHardness();
+        askedFirst();
         byAll();
         order();
         refused();
@@ -75,6 +76,27 @@ public final class FoundationTest {
         x.word(0, 0, 0, 0);
         Due.due("of no hardness, the least", x.lightest(0), Due.bits("a"));
         found(x, "a", 2, "", "ab");
+        x = withShown("fWab", "aWf", "bWf", "cS", "dS", "eS");
+        x.word(0, 5, 0, 2);
+        Due.due("as hard, fewer words, though not the least", x.lightest(0), Due.bits("f"));
+        x.word(0, 5, 0, 3);
+        Due.due("less hard, more words", x.lightest(0), Due.bits("ab"));
+    }
+
+    /** Each is asked first of a new object, and behind another book's. */
+    private static void askedFirst() {
+        Due.due("lightest", withShown("aWb", "bWa").lightest(0), Due.bits("acdef"));
+        Due.due("sets", withShown("aWb", "bWa").sets(0, 0), 2);
+        Due.due("must", withShown("aWb", "bWa").sets(0, 1), Due.bits("cdef"));
+        Due.due("may", withShown("aWb", "bWa").sets(0, 2), Due.bits("abcdef"));
+        Due.due("soonest", withShown("aWb", "bWa").soonest(0, 0), 1);
+        WordsTold x = withShown("aWb", "bWa");
+        Due.due("fewest of 1", x.fewest(1), 4095);
+        Due.due("lightest of 0", x.lightest(0), Due.bits("acdef"));
+        Due.due("lightest of 1", x.lightest(1), 4095);
+        Due.due("sets of 0", x.sets(0, 0), 2);
+        Due.due("sets of 1", x.sets(1, 0), 1);
+        Due.due("may of 0", x.sets(0, 2), Due.bits("abcdef"));
     }
 
     private static void byAll() {

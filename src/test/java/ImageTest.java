@@ -45,6 +45,8 @@ public final class ImageTest {
         Due.due("none yet", x.on(), -3);
         x.word(1, 3, 0, 42);
         x.word(0, 4, 1, 43);
+        x.word(0, 0, 0, 44);
+        x.word(1, 11, 1, 45);
         x.all(1, 5, true);
         Due.alter(x, 1, 1, "bS");
         Due.type(x, "ab");
@@ -55,6 +57,8 @@ public final class ImageTest {
         x.telling(2);
         x.word(1, 3, 0, 1);
         x.word(0, 4, 1, 0);
+        x.word(0, 0, 0, 2);
+        x.word(1, 11, 1, 3);
         x.all(1, 5, false);
         x.all(0, 5, true);
         x.telling(0);
@@ -74,6 +78,8 @@ public final class ImageTest {
             Due.due("refusals as they are", x.count(11) + x.count(13), 2);
             Due.due("hardness", x.word(1, 3, 0, 5), 42);
             Due.due("met", x.word(0, 4, 1, 6), 43);
+            Due.due("hardness of a", x.word(0, 0, 0, 7), 44);
+            Due.due("met of l", x.word(1, 11, 1, 8), 45);
             Due.due("all", x.all(1, 5, true), 0);
             Due.due("all", x.all(0, 5, true), 1);
             Due.due("mend", x.mend(1), 1);

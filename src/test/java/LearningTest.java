@@ -101,6 +101,9 @@ public final class LearningTest {
         Due.due("depth of g", x.depth(1, 32, 6), 1);
         Due.due("depth of a", x.depth(1, 32, 0), -9);
         Due.due("depth of l from k too", x.depth(1, 1 | 1 << 10, 11), 1);
+        x = Due.with(0, "aS", "bWa", "cWb", "dWc", "eWd", "fWe", "gWf", "hWg", "iWh", "jWi", "kWj", "lWk");
+        Due.due("twelve rounds", x.depth(0, 0, 11), 12);
+        Due.due("all in twelve rounds", x.learnt(0, 0), 4095);
         x = Due.with(0, "cLab", "bS", "dWbc", "cWb");
         Due.due("round 1", x.depth(0, 0, 1), 1);
         Due.due("rounds ahead alone", x.depth(0, 0, 2), 2);

@@ -68,10 +68,16 @@ public final class TapeTest {
             Due.due("telling " + texts[i], Due.tell(x, 0, texts[i]), answers[i]);
             Due.due("the tape has none behind " + texts[i], x.count(3), 0);
         }
+        Due.due("telling", Due.tell(x, 0, "cS"), 3);
+        Due.due("nothing is left of the one ahead", Due.tell(x, 0, "c"), -21);
+        Due.due("telling", Due.tell(x, 0, "cWab"), 4);
+        Due.due("nothing is left of the one ahead", Due.tell(x, 0, "cW"), -22);
+        Due.due("telling", Due.tell(x, 0, "cWb"), 5);
+        Due.due("its words alone", x.tellingOf(0, 5, 2), 2);
         for (int what = 11; what <= 16; what++) {
             Due.due("a fault is not counted " + what, x.count(what), 0);
         }
-        Due.due("tellings", x.count(0), 3);
+        Due.due("tellings", x.count(0), 6);
         Due.due("the other book has none", x.count(1), 0);
     }
 

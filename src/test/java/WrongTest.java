@@ -39,6 +39,9 @@ public final class WrongTest {
         spread(x, "ad", 'd', "db");
         spread(x, "ad", 'a', "ac");
         spread(x, "ae", 'e', "be");
+        x = Due.with(0, "aWb", "cWa", "aLd");
+        spread(x, "b", 'b', "abc");
+        spread(x, "bd", 'd', "d");
         x = Due.with(0, "eLbc", "bWd", "dWa", "fWeb");
         spread(x, "ac", 'a', "abdf");
         spread(x, "ac", 'c', "cef");
@@ -67,6 +70,11 @@ public final class WrongTest {
         Due.due("itself alone", x.shows(0, 1 | 1 << 3, 3), 3);
         Due.due("nothing shown", x.shows(0, 2, 1), -9);
         Due.due("the other book", x.shows(1, 1, 0), -9);
+        x = Due.with(1, "aS", "aWb");
+        Due.due("number 0 is the SHOWN one", x.shows(1, 1, 0), 0);
+        Due.due("learnt in round 1 by number 0", x.spread(1, 2, 1), 2);
+        x = Due.with(0, "aWb", "aS");
+        Due.due("a is wrong and has a SHOWN one", x.shows(0, 2, 1), 0);
     }
 
     private static void refused() {
