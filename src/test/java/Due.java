@@ -2,6 +2,7 @@
 final class Due {
     private static int wrong = 0;
     private static int asked = 0;
+    private static String name = "";
 
     private Due() {
     }
@@ -10,8 +11,21 @@ final class Due {
         asked++;
         if (got != want) {
             wrong++;
-            System.out.println(call + " answered " + got + ", due is " + want);
+            System.out.println(name + call + " answered " + got + ", due is " + want);
         }
+    }
+
+    /** What is told ahead of each wrong answer from now on. */
+    static void name(String test) {
+        name = test;
+    }
+
+    static int howManyWrong() {
+        return wrong;
+    }
+
+    static int howManyAsked() {
+        return asked;
     }
 
     /** Bits of letters: "ac" is 5. */
