@@ -18,10 +18,25 @@ public final class FaceTest {
         "count(int)"};
 
     public static void main(String[] args) throws IOException {
+        document();
         face();
         inside();
         source();
         Due.end();
+    }
+
+    /** "The public face" of the document tells these methods, and no others. */
+    private static void document() throws IOException {
+        String told = Files.readString(Path.of("../shared/DOC.md"));
+        int from = told.indexOf("public final class WordsTold {");
+        Set<String> seen = new TreeSet<>();
+        for (String line : told.substring(from, told.indexOf("```", from)).split("\n")) {
+            if (line.startsWith("    public int ")) {
+                String shape = line.substring("    public int ".length(), line.indexOf(';'));
+                seen.add(shape.replaceAll("(int|long|boolean) \\w+", "$1").replace(", ", ","));
+            }
+        }
+        Due.due("the document's face " + seen, seen.equals(new TreeSet<>(Set.of(FACE))) ? 1 : 0, 1);
     }
 
     private static String shape(Method method) {

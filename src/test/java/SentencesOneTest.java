@@ -30,7 +30,7 @@ public final class SentencesOneTest {
         return x;
     }
 
-    /** Tellings of three of a word as long as there is room, 20 at most. */
+    /** A new object with this many tellings in book 0, three of a word, and this text on the tape. */
     private static WordsTold full(int many, String tape) {
         WordsTold x = new WordsTold();
         for (int i = 0; i < many; i++) {
