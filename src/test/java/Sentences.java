@@ -132,6 +132,7 @@ final class Sentences {
     private static String look(WordsTold x) {
         StringBuilder seen = new StringBuilder();
         lookAtBooks(x, seen, 4);
+        lookAtWords(x, seen);
         for (int book = 0; book < 2; book++) {
             for (int word = 0; word < 12; word++) {
                 seen.append(x.word(book, word, 0, 0)).append('/').append(x.word(book, word, 1, 0)).append('/');
@@ -148,6 +149,16 @@ final class Sentences {
         seen.append(" on ").append(x.on()).append(' ');
         lookAtBooks(x, seen, 1);
         return seen.toString();
+    }
+
+    private static void lookAtWords(WordsTold x, StringBuilder seen) {
+        for (int book = 0; book < 2; book++) {
+            seen.append("idle ").append(x.idle(book)).append(" knots ").append(x.knots(book)).append(' ');
+            for (int word = 0; word < 12; word++) {
+                seen.append(x.needed(book, word)).append('/').append(x.leads(book, word)).append('/');
+                seen.append(x.spread(book, 1 << word, word)).append('/').append(x.shows(book, 1 << word, word)).append(' ');
+            }
+        }
     }
 
     private static void lookAtBooks(WordsTold x, StringBuilder seen, int whats) {

@@ -39,9 +39,9 @@ public final class SentencesImageTest {
     /** All that THE IMAGE holds changes; the refusals stay. */
     private static void change(WordsTold x) {
         Due.due("dS", Due.tell(x, 0, "dS"), 3);
-        Due.due("kS", Due.tell(x, 1, "kS"), 1);
+        Due.due("bLc", Due.tell(x, 1, "bLc"), 1);
         Due.due("a change", Due.alter(x, 0, 0, "aS"), 2);
-        Due.due("a fourth change", Due.alter(x, 1, 1, "kRa"), 3);
+        Due.due("a fourth change", Due.alter(x, 1, 1, "bRa"), 3);
         for (int word = 0; word < 12; word++) {
             for (int i = 0; i < 4; i++) {
                 x.word(i / 2, word, i % 2, 20 + word);
