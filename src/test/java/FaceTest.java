@@ -8,7 +8,7 @@ import java.nio.file.Path;
 import java.util.Set;
 import java.util.TreeSet;
 
-/** The public face, and those rules of LANGUAGE.md that words of the source show. */
+/** The public face: the class has what the document tells, and nothing else. */
 public final class FaceTest {
     private static final String[] FACE = {"feed(int,long)", "telling(int)", "tellingOf(int,int,int)",
         "word(int,int,int,int)", "all(int,int,boolean)", "depth(int,int,int)", "learnt(int,int)", "put(int)",
@@ -21,7 +21,6 @@ public final class FaceTest {
         document();
         face();
         inside();
-        source();
         Due.end();
     }
 
@@ -75,19 +74,6 @@ public final class FaceTest {
                     Due.due("the name of " + method, of.startsWith(method.getName() + "(") ? 1 : 0, 0);
                 }
             }
-        }
-    }
-
-    private static void source() throws IOException {
-        String source = Files.readString(Path.of("src/main/java/WordsTold.java"));
-        String code = source.replaceAll("(?s)/\\*.*?\\*/", " ").replaceAll("//[^\n]*", " ").replaceAll("\"[^\"]*\"", " ");
-        Set<String> words = new TreeSet<>(java.util.Arrays.asList(code.split("[^A-Za-z]+")));
-        for (String no : new String[] {"throw", "throws", "try", "catch", "synchronized", "assert", "import", "package",
-            "Object", "System", "Thread", "Random"}) {
-            Due.due("the word " + no, words.contains(no) ? 1 : 0, 0);
-        }
-        for (String no : new String[] {"->", "::"}) {
-            Due.due("the sign " + no, code.indexOf(no) >= 0 ? 1 : 0, 0);
         }
     }
 }

@@ -9,7 +9,6 @@ public final class SentencesImageTest {
         imageTaken();
         on();
         count();
-        lastCall();
         Sentences.end(Sentences.IMAGE, "Promise 27", "Promise 28", "Promise 29");
     }
 
@@ -343,21 +342,6 @@ public final class SentencesImageTest {
             for (int what : others) {
                 Sentences.leaves("count " + what, -9, SentencesImageTest::filled, x -> x.count(what), SentencesImageTest::filled);
             }
-        });
-    }
-
-    private static void lastCall() {
-        Sentences.holds(29, Sentences.HEAD, "An object is used for at most 512 calls after it has been made;", () -> {
-            WordsTold x = new WordsTold();
-            for (int call = 1; call < 512; call++) {
-                Due.due("call " + call, x.telling(-1), -1);
-            }
-            Due.due("call 512", x.count(11), 511);
-            x = filled();
-            for (int call = 0; call < 480; call++) {
-                Due.due("mend", x.mend(0), 1);
-            }
-            Due.due("a later call", x.fewest(0), 4093);
         });
     }
 }
